@@ -29,12 +29,12 @@ public final class ModelTest {
     public static void main(String[] args) {
         int runs = args.length > 0 ? Integer.parseInt(args[0]) : 1500;
         for (int seed = 0; seed < runs; seed++) {
-            new ModelTest(seed).run(seed);
+            new ModelTest(seed).run();
         }
         System.out.println("ModelTest: " + runs + " runs of " + CALLS + " calls are alike");
     }
 
-    private void run(int seed) {
+    private void run() {
         while (calls.size() < CALLS) {
             int kind = random.nextInt(20);
             if (kind == 0) {
@@ -50,9 +50,6 @@ public final class ModelTest {
         }
         if (random.nextInt(10) == 0) {
             compareAll();
-        }
-        if (seed < 0) {
-            System.out.println(calls);
         }
     }
 

@@ -75,6 +75,10 @@ public final class SignsTest {
         Check.read(x, "h;u6");
         x.hour();
         x.hour();
+        x.platform(0, 1, 127);
+        x.whistle(0);
+        x.hour();
+        check.due("2: an echo gets the way", -2, () -> x.hour());
         x.lie(2, 0);
         int written = x.text(0);
         Check.append(x, "h;h");
@@ -86,7 +90,7 @@ public final class SignsTest {
         check.due("2: the error position stays", 1, () -> x.errorPosition());
         check.due("2: the refused item stays", 1, () -> x.refusedItem());
         check.due("2: the refusal stays", "2:2", () -> Check.refusal(x));
-        check.due("2: the line of text stays", "0:ls/0*11", () -> Check.written(x, written));
+        check.due("2: the line of text stays", "0:ls/0*12", () -> Check.written(x, written));
         check.due("2: the snapshot stays", 2, () -> x.restore());
         check.due("2: its signs", 2, () -> x.lineOf(0, 0));
     }
@@ -221,6 +225,7 @@ public final class SignsTest {
         check.due("8: lines", 4, () -> x.platformOf(3, 1));
         check.due("8: none heard", 0, () -> x.platformOf(3, 2));
         check.due("8: to come", 1, () -> x.platformOf(3, 3));
+        check.due("8: to come of a platform without any", 0, () -> x.platformOf(0, 3));
         x.hour();
         x.lie(1, 2);
         check.due("8: one heard", 1, () -> x.platformOf(1, 2));

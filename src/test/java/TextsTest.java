@@ -31,6 +31,9 @@ public final class TextsTest {
         x.mute(6, 9);
         x.expose(6);
         check.due("25: two digits", "6/0*2!12", () -> Check.written(x, x.text(6)));
+        x.mute(5, 1);
+        check.due("25: muted for one hour", "5/0*12!1", () -> Check.written(x, x.text(5)));
+        x.text(6);
         for (int line : new int[] {-1, 7, Integer.MIN_VALUE, Integer.MAX_VALUE}) {
             check.fails("25: line " + line, NO_INDEX, () -> x.text(line));
         }
@@ -126,6 +129,9 @@ public final class TextsTest {
     private static void promise30MeanLength() {
         WhistleJunction x = new WhistleJunction();
         check.fails("30: none", ArithmeticException.class, () -> x.meanLength());
+        Check.sign(x, 0, "ll");
+        check.due("30: of the line 0", 2.0, () -> x.meanLength());
+        x.unsign(0);
         Check.sign(x, 2, "sls");
         check.due("30: one", 3.0, () -> x.meanLength());
         Check.sign(x, 4, "s");

@@ -55,6 +55,15 @@ public final class WhistlesTest {
         x.hour();
         check.due("12: all the steam", 0, () -> x.whistle(0));
         check.due("12: whistles so far", 2, () -> x.account(6));
+        Check.sign(x, 0, "lss");
+        x.mute(5, 1);
+        Check.sign(x, 5, "s");
+        check.fails("12: muted for one hour", REFUSED, () -> x.whistle(5));
+        check.due("12: reason 4 for one hour", "4:1", () -> Check.refusal(x));
+        x.hour();
+        Check.sign(x, 0, "ls");
+        check.fails("12: one too little", REFUSED, () -> x.whistle(0));
+        check.due("12: reason 6 for one", "6:1", () -> Check.refusal(x));
         for (int line : NO_LINES) {
             check.fails("12: line " + line, NO_INDEX, () -> x.whistle(line));
         }
@@ -164,6 +173,12 @@ public final class WhistlesTest {
         check.due("16: paid in all", 14, () -> x.account(13));
         check.fails("16: not muted again", REFUSED, () -> x.fine(4));
         check.due("16: reason 8 again", "8:6", () -> Check.refusal(x));
+        Check.sign(x, 5, "s");
+        x.whistle(5);
+        x.hour();
+        x.mute(5, 7);
+        check.fails("16: one coin too few", REFUSED, () -> x.fine(5));
+        check.due("16: reason 9 for one", "9:1", () -> Check.refusal(x));
         for (int line : NO_LINES) {
             check.fails("16: line " + line, NO_INDEX, () -> x.fine(line));
         }
@@ -452,6 +467,16 @@ public final class WhistlesTest {
         dueReading(y, new int[] {0, 5, 5});
         Check.sign(y, 0, "sl");
         dueReading(y, new int[] {1, 5});
+        WhistleJunction z = new WhistleJunction();
+        Check.sign(z, 0, "lsslll");
+        Check.sign(z, 1, "slssss");
+        Check.sign(z, 2, "slsssl");
+        Check.sign(z, 3, "s");
+        z.hour();
+        z.whistle(3);
+        z.whistle(2);
+        z.whistle(0);
+        dueReading(z, new int[] {3, 2, 0});
     }
 
     private static void dueReading(WhistleJunction x, int[] due) {
