@@ -92,4 +92,22 @@ final class Check {
         }
         return all.toString();
     }
+
+    /** The line of text, asked until there is no character more. */
+    static String line(WhistleJunction junction) {
+        StringBuilder text = new StringBuilder();
+        Object next = answerOf(() -> junction.character(0));
+        while (next instanceof Character) {
+            text.append(next);
+            next = answerOf(() -> junction.character(text.length()));
+        }
+        return text.toString();
+    }
+
+    /** All that can be asked without changing anything, but the refusal. */
+    static String everything(WhistleJunction junction) {
+        return state(junction) + " buffer " + junction.account(14) + " changes " + junction.account(15)
+            + " error " + answerOf(() -> junction.errorPosition()) + " item " + answerOf(() -> junction.refusedItem())
+            + " line " + line(junction);
+    }
 }
