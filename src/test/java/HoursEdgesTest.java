@@ -462,6 +462,13 @@ public final class HoursEdgesTest {
             x.hour();
             dueWays(x, 1);
         });
+        t.test("20: the sixth letter of a sign is asked", x -> {
+            Sentences.sound(x, "sssssl");
+            Sentences.tell(x, "ssssss");
+            dueWays(x, 0);
+            Sentences.tell(x, "", "sssssl");
+            dueWays(x, 1);
+        });
         t.test("20: none if no line has a sign now", x -> {
             Sentences.sound(x, "s");
             dueWays(x, 0);
@@ -536,18 +543,17 @@ public final class HoursEdgesTest {
             dueWays(x, 9999);
         });
         t.test("20: at most 9999: of more ways than an int or a long can count", x -> {
-            Sentences.tell(x, "sssss", "ssssss", "s", "ss", "sss", "ssss");
-            Sentences.hours(x, 5);
-            for (int delay = 2; delay > 0; delay--) {
-                for (int platform = 0; platform < 4; platform++) {
-                    x.platform(platform, delay, 127);
-                }
-                x.whistle(0);
-                x.whistle(1);
-                x.hour();
-            }
-            t.due(88, () -> x.account(4));
+            Sentences.soundMost(x);
+            Sentences.tell(x, "s", "ss", "sss", "ssss", "sssss", "ssssss");
             dueWays(x, 9999);
+        });
+        t.test("20: all letters of the longest strip are read", x -> {
+            Sentences.soundMost(x);
+            Sentences.tell(x, "ssssss");
+            dueWays(x, 1);
+            Sentences.tell(x, "", "sssss");
+            x.unsign(0);
+            dueWays(x, 0);
         });
         t.test("20: at most 9999: of more than 2 to the power of 31, which are below 0 for an int", x -> {
             Sentences.sound(x, "sssssssssssssssssssssssssssssssss");
@@ -608,6 +614,21 @@ public final class HoursEdgesTest {
             Sentences.sound(x, "ssssssl");
             Sentences.tell(x, "ssssss", "", "", "", "", "", "l");
             dueReading(x, 0, 6);
+        });
+        t.test("21: the sixth letter of a sign tells it from a lower line's", x -> {
+            Sentences.sound(x, "ssssslsssssssssssl");
+            Sentences.tell(x, "ssssss", "sssssl", "llllll");
+            dueReading(x, 1, 0, 1);
+        });
+        t.test("21: the last place of the longest strip", x -> {
+            Sentences.soundMost(x);
+            Sentences.tell(x, "", "", "", "", "", "", "ssssss");
+            t.due(6, () -> x.reading(0));
+            t.due(6, () -> x.reading(132));
+            t.fails(Sentences.NONE, () -> x.reading(133));
+            Sentences.tell(x, "s");
+            t.due(0, () -> x.reading(797));
+            t.fails(Sentences.NONE, () -> x.reading(798));
         });
         t.test("21: the first way of more than 9999", x -> {
             Sentences.sound(x, "sssssssssssssssssssssssssssssl");

@@ -81,6 +81,25 @@ final class Sentences {
         }
     }
 
+    /** The most letters that can be heard in one hour: 798, all s, in 140 echoes and 7 whistles, and no sign is left. */
+    static void soundMost(WhistleJunction junction) {
+        hours(junction, 5);
+        String[] words = {"ss", "ssss", "ssssss", "ssssss", "ssssss", "ssssss"};
+        for (int delay = 5; delay >= 0; delay--) {
+            for (int platform = 0; platform < 4; platform++) {
+                junction.platform(platform, delay, 127);
+            }
+            for (int line = 0; line < 7; line++) {
+                Check.sign(junction, line, words[delay]);
+                junction.whistle(line);
+                junction.unsign(line);
+            }
+            if (delay > 0) {
+                junction.hour();
+            }
+        }
+    }
+
     static void hours(WhistleJunction junction, int number) {
         for (int i = 0; i < number; i++) {
             junction.hour();

@@ -87,6 +87,8 @@ public final class SignsEdgesTest {
             x.mute(4, 9);
             x.mute(5, 1);
             x.fine(5);
+            t.due(-2, () -> x.hour());
+            x.whistle(3);
             x.clear();
             t.due(fresh, () -> Check.state(x));
         });

@@ -127,21 +127,7 @@ public final class TextsEdgesTest {
             dueStrip(x, "");
         });
         t.test("26: the longest strip that can be heard", x -> {
-            Sentences.hours(x, 5);
-            String[] words = {"ssssss", "ssssss", "ssssss", "ssssss", "ssss", "ss"};
-            for (int delay = 5; delay >= 0; delay--) {
-                for (int platform = 0; platform < 4; platform++) {
-                    x.platform(platform, delay, 127);
-                }
-                for (int line = 0; line < 7; line++) {
-                    Check.sign(x, line, words[5 - delay]);
-                    x.whistle(line);
-                    x.unsign(line);
-                }
-                if (delay > 0) {
-                    x.hour();
-                }
-            }
+            Sentences.soundMost(x);
             t.due(147, () -> x.account(3));
             t.due(798, () -> x.account(4));
             t.due(798, () -> x.strip());
